@@ -1,0 +1,310 @@
+import java.lang.reflect.InvocationTargetException;
+import java.lang.reflect.Method;
+import java.util.Map;
+import java.util.Random;
+import java.util.TreeMap;
+
+/**
+ * Runs of calls, made by a fixed seed, on an object of the class and on the plain model: both must
+ * answer alike, and after each call that tells or solves, all that can be looked at must be alike.
+ */
+public final class RandomRunsTest {
+    private static final int RUNS = 1500;
+    private static final Map<String, Method> SOLVER = methods(BranchQuarry.class);
+    private static final Map<String, Method> MODEL = methods(PlainModel.class);
+    private static final String[] RARE = {
+        "tightened", "tighten empties a column", "unkept", "unlike", "unlike by a dropped cut",
+        "begun anew with the best solution", "best lost", "tree stays", "too many nodes", "dropped",
+        "negative gain", "rule l chose a later column", "cut r", "cut c", "cut k", "cut y",
+        "lifted to more than 1", "left out of a cover again", "no choice to lift", "lifted",
+        "offer taken", "round taken", "state b", "state s", "state p", "no point"
+    };
+
+    private final Random random;
+    private final int run;
+    private final BranchQuarry solver = new BranchQuarry();
+    private final PlainModel model = new PlainModel();
+    private final StringBuilder told = new StringBuilder();
+    private int columns;
+    private boolean isWrong;
+
+    private RandomRunsTest(int run) {
+        this.run = run;
+        random = new Random(run * 7919L + 1);
+    }
+
+    public static void main(String[] args) {
+        int from = args.length > 0 ? Integer.parseInt(args[0]) : 0;
+        int to = args.length > 1 ? Integer.parseInt(args[1]) : RUNS;
+        int wrong = 0;
+        Map<String, Integer> seen = new TreeMap<>();
+        for (int run = from; run < to; run++) {
+            RandomRunsTest test = new RandomRunsTest(run);
+            test.go();
+            wrong += test.isWrong ? 1 : 0;
+            test.model.seen.forEach((k, v) -> seen.merge(k, v, Integer::sum));
+            if (wrong > 5) {
+                break;
+            }
+        }
+        for (String what : RARE) {
+            if (wrong == 0 && !seen.containsKey(what)) {
+                System.out.println("the runs never met: " + what);
+                wrong++;
+            }
+        }
+        System.out.println("met in the runs: " + seen);
+        System.out.println(wrong == 0 ? "all runs alike" : wrong + " runs are not alike");
+        if (wrong != 0) {
+            System.exit(1);
+        }
+    }
+
+    private static Map<String, Method> methods(Class<?> owner) {
+        Map<String, Method> all = new TreeMap<>();
+        for (Method m : owner.getDeclaredMethods()) {
+            if (java.lang.reflect.Modifier.isPublic(m.getModifiers())) {
+                m.setAccessible(true);
+                all.put(m.getName(), m);
+            }
+        }
+        return all;
+    }
+
+    private static String answer(Method m, Object on, Object[] args) {
+        try {
+            return String.valueOf(m.invoke(on, args));
+        } catch (InvocationTargetException e) {
+            return "throws " + e.getCause().getClass().getName();
+        } catch (IllegalAccessException e) {
+            throw new IllegalStateException(e);
+        }
+    }
+
+    private String call(String name, Object... args) {
+        String got = answer(SOLVER.get(name), solver, args);
+        String due = answer(MODEL.get(name), model, args);
+        if (!got.equals(due) && !isWrong) {
+            isWrong = true;
+            System.out.println("run " + run + ":" + told);
+            System.out.println("  " + name + java.util.Arrays.toString(args) + " answered " + got + ", due is " + due);
+        }
+        return got;
+    }
+
+    private void tell(String name, Object... args) {
+        told.append("\n    ").append(name).append(java.util.Arrays.toString(args));
+        told.append(" -> ").append(call(name, args));
+        lookAtAll();
+    }
+
+    private void lookAtAll() {
+        int nodes = Integer.parseInt(call("nodes"));
+        int cuts = Integer.parseInt(call("cuts"));
+        for (String plain : new String[] {"open", "bound", "best", "gap", "meanDepth", "unkept"}) {
+            call(plain);
+        }
+        for (int j = -1; j <= columns; j++) {
+            call("lower", j);
+            call("upper", j);
+            call("solution", j);
+            call("gain", j, false);
+            call("gain", j, true);
+            for (int k = -1; k <= columns; k++) {
+                call("areAlike", j, k);
+            }
+        }
+        for (int n = -1; n <= nodes; n++) {
+            call("state", n);
+            call("parent", n);
+            call("value", n);
+            for (int j = -1; j <= columns; j++) {
+                call("lowerAt", n, j);
+                call("upperAt", n, j);
+                call("point", n, j);
+            }
+        }
+        for (int c = -1; c <= cuts; c++) {
+            call("kind", c);
+            call("side", c);
+            call("age", c);
+            for (int j = -1; j <= columns; j++) {
+                call("coefficient", c, j);
+            }
+        }
+    }
+
+    private int between(int least, int greatest) {
+        return least + random.nextInt(greatest - least + 1);
+    }
+
+    private boolean chance(int percent) {
+        return random.nextInt(100) < percent;
+    }
+
+    private void go() {
+        int shape = run % 6;
+        columns = shape == 0 ? between(0, 4) : between(2, chance(60) ? 3 : 4);
+        if (shape == 1 || shape == 5) {
+            columns = between(3, 4);
+        }
+        tellColumns(shape);
+        int rows = between(1, 4);
+        for (int k = 0; k < rows; k++) {
+            tellRow(shape);
+        }
+        if (chance(50)) {
+            tell("tighten");
+        }
+        call("bestByAll");
+        tell("begin", anyOf("bd"), anyOf("fhl"));
+        int calls = between(10, 40);
+        for (int k = 0; k < calls && !isWrong; k++) {
+            tellOne(shape);
+        }
+        if (chance(30)) {
+            call("bestByAll");
+        }
+    }
+
+    private void tellColumns(int shape) {
+        int cost = between(-9, 9);
+        int low = between(-9, 2);
+        int high = between(low, Math.min(9, low + between(1, 8)));
+        for (int j = 0; j < columns; j++) {
+            boolean isWhole = chance(shape == 2 ? 50 : 90);
+            if (shape == 1 || shape == 5) {
+                int price = shape == 5 && chance(70) ? cost : between(-9, 4);
+                tell("addColumn", price, 0, 1, shape == 5 || isWhole);
+            } else if (shape == 3) {
+                tell("addColumn", chance(80) ? cost : between(-9, 9), low, high, true);
+            } else if (shape == 4) {
+                tell("addColumn", between(-3, 3), between(-9, -3), between(3, 9), true);
+            } else {
+                int a = between(-9, 9);
+                tell("addColumn", between(-9, 9), a, between(a, 9), isWhole);
+            }
+        }
+        if (shape == 0 && chance(30)) {
+            tell("addColumn", between(-10, 10), between(-10, 10), between(-10, 10), chance(50));
+            columns = Math.min(4, columns);
+            while (columns < 4 && !call("lower", columns).startsWith("throws")) {
+                columns++;
+            }
+        }
+    }
+
+    private void tellRow(int shape) {
+        int[] co = new int[4];
+        for (int j = 0; j < columns; j++) {
+            co[j] = between(-5, 5);
+        }
+        int side = between(-12, 25);
+        char sense = anyOf("llge");
+        if (shape == 1 || shape == 5) {
+            boolean isTurned = chance(20);
+            for (int j = 0; j < columns; j++) {
+                co[j] = isTurned ? -between(0, 5) : between(0, 5);
+            }
+            sense = isTurned ? 'g' : anyOf("llle");
+            side = isTurned ? -between(-1, 8) : between(0, 8);
+            if (chance(25)) {
+                for (int j = 0; j < columns; j++) {
+                    co[j] = 2 * between(0, 2);
+                }
+                side = 2 * between(0, 3) + 1;
+                sense = 'e';
+            }
+        }
+        if (shape == 3) {
+            int same = between(-5, 5);
+            for (int j = 0; j < columns; j++) {
+                co[j] = chance(75) ? same : between(-5, 5);
+            }
+        }
+        if (shape == 4) {
+            for (int j = 0; j < columns; j++) {
+                co[j] = 2 * between(-2, 2);
+            }
+            side = 2 * between(-3, 3) + 1;
+            sense = chance(60) ? 'e' : anyOf("lg");
+        }
+        if (chance(3)) {
+            sense = anyOf("lgex");
+            side = between(-101, 101);
+            co[between(0, 3)] = between(-7, 7);
+        }
+        tell("addRow", sense, side, co[0], co[1], co[2], co[3]);
+    }
+
+    private char anyOf(String signs) {
+        return chance(2) ? 'x' : signs.charAt(random.nextInt(signs.length()));
+    }
+
+    private int anyColumn() {
+        return between(chance(5) ? -1 : 0, Math.max(0, columns - (chance(5) ? 0 : 1)));
+    }
+
+    private int anyNode() {
+        int nodes = solver.nodes();
+        return between(chance(5) ? -1 : 0, Math.max(0, nodes - (chance(5) ? 0 : 1)));
+    }
+
+    private int anyRow() {
+        return between(chance(5) ? -1 : 0, chance(10) ? 8 : 4);
+    }
+
+    private void tellOne(int shape) {
+        int what = between(0, 99);
+        if (what < 38) {
+            tell("solve", chance(75) ? between(1, 3) : between(0, 42));
+        } else if (what < 50) {
+            tell("cutByRounding", anyNode(), anyRow(), between(chance(5) ? 0 : 2, chance(5) ? 7 : 5));
+        } else if (what < 60) {
+            tell("cutByCover", anyRow());
+        } else if (what < 68) {
+            int column = anyColumn();
+            tell("cutByLikeness", column, chance(70) ? column + 1 : anyColumn());
+        } else if (what < 75) {
+            tell("round", anyNode());
+        } else if (what < 83) {
+            tellOffer();
+        } else if (what < 91) {
+            tellLaterRow(shape);
+        } else if (what < 94) {
+            tell("begin", anyOf("bd"), anyOf("fhl"));
+        } else if (what < 96) {
+            tell("tighten");
+        } else if (what < 97) {
+            tell("addColumn", between(-9, 9), 0, 1, chance(50));
+        } else {
+            call("bestByAll");
+        }
+    }
+
+    private void tellOffer() {
+        Object[] values = new Object[4];
+        for (int j = 0; j < 4; j++) {
+            values[j] = random.nextInt();
+            if (j < columns && !chance(2)) {
+                int low = Integer.parseInt(call("lower", j));
+                int high = Integer.parseInt(call("upper", j));
+                values[j] = between(Math.min(low, high), high);
+            }
+        }
+        tell("offer", values);
+    }
+
+    /** Mostly a row that leaves most points, so that trees stay as often as they are begun anew. */
+    private void tellLaterRow(int shape) {
+        if (chance(50)) {
+            tellRow(shape);
+            return;
+        }
+        int[] co = new int[4];
+        for (int j = 0; j < columns; j++) {
+            co[j] = chance(60) ? between(-2, 2) : 0;
+        }
+        tell("addRow", anyOf("lg"), chance(70) ? between(4, 30) : between(-5, 5), co[0], co[1], co[2], co[3]);
+    }
+}
