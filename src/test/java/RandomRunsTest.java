@@ -25,6 +25,8 @@ public final class RandomRunsTest {
     private final BranchQuarry solver = new BranchQuarry();
     private final PlainModel model = new PlainModel();
     private final StringBuilder told = new StringBuilder();
+    /** Most rows are made so that they hold there, or many programs would have no point at all. */
+    private final int[] hidden = new int[4];
     private int columns;
     private boolean isWrong;
 
@@ -95,24 +97,33 @@ public final class RandomRunsTest {
     private void tell(String name, Object... args) {
         told.append("\n    ").append(name).append(java.util.Arrays.toString(args));
         told.append(" -> ").append(call(name, args));
-        lookAtAll();
+        lookAtTree();
+        if (name.startsWith("add") || name.equals("tighten")) {
+            lookAtProgram();
+        }
     }
 
-    private void lookAtAll() {
-        int nodes = Integer.parseInt(call("nodes"));
-        int cuts = Integer.parseInt(call("cuts"));
-        for (String plain : new String[] {"open", "bound", "best", "gap", "meanDepth", "unkept"}) {
-            call(plain);
-        }
+    private void lookAtProgram() {
+        call("unkept");
         for (int j = -1; j <= columns; j++) {
             call("lower", j);
             call("upper", j);
-            call("solution", j);
-            call("gain", j, false);
-            call("gain", j, true);
             for (int k = -1; k <= columns; k++) {
                 call("areAlike", j, k);
             }
+        }
+    }
+
+    private void lookAtTree() {
+        int nodes = Integer.parseInt(call("nodes"));
+        int cuts = Integer.parseInt(call("cuts"));
+        for (String plain : new String[] {"open", "bound", "best", "gap", "meanDepth"}) {
+            call(plain);
+        }
+        for (int j = -1; j <= columns; j++) {
+            call("solution", j);
+            call("gain", j, false);
+            call("gain", j, true);
         }
         for (int n = -1; n <= nodes; n++) {
             call("state", n);
@@ -167,6 +178,22 @@ public final class RandomRunsTest {
         }
     }
 
+    private void tellColumn(int cost, int low, int high, boolean isWhole) {
+        int number = countColumns();
+        if (number < 4) {
+            hidden[number] = between(low, Math.max(low, high));
+        }
+        tell("addColumn", cost, low, high, isWhole);
+    }
+
+    private int countColumns() {
+        int count = 0;
+        while (!call("lower", count).startsWith("throws")) {
+            count++;
+        }
+        return count;
+    }
+
     private void tellColumns(int shape) {
         int cost = between(-9, 9);
         int low = between(-9, 2);
@@ -175,22 +202,19 @@ public final class RandomRunsTest {
             boolean isWhole = chance(shape == 2 ? 50 : 90);
             if (shape == 1 || shape == 5) {
                 int price = shape == 5 && chance(70) ? cost : between(-9, 4);
-                tell("addColumn", price, 0, 1, shape == 5 || isWhole);
+                tellColumn(price, 0, 1, shape == 5 || isWhole);
             } else if (shape == 3) {
-                tell("addColumn", chance(80) ? cost : between(-9, 9), low, high, true);
+                tellColumn(chance(90) ? cost : between(-9, 9), low, high, true);
             } else if (shape == 4) {
-                tell("addColumn", between(-3, 3), between(-9, -3), between(3, 9), true);
+                tellColumn(between(-3, 3), between(-9, -3), between(3, 9), true);
             } else {
                 int a = between(-9, 9);
-                tell("addColumn", between(-9, 9), a, between(a, 9), isWhole);
+                tellColumn(between(-9, 9), a, between(a, 9), isWhole);
             }
         }
         if (shape == 0 && chance(30)) {
-            tell("addColumn", between(-10, 10), between(-10, 10), between(-10, 10), chance(50));
-            columns = Math.min(4, columns);
-            while (columns < 4 && !call("lower", columns).startsWith("throws")) {
-                columns++;
-            }
+            tellColumn(between(-10, 10), between(-10, 10), between(-10, 10), chance(50));
+            columns = countColumns();
         }
     }
 
@@ -199,42 +223,69 @@ public final class RandomRunsTest {
         for (int j = 0; j < columns; j++) {
             co[j] = between(-5, 5);
         }
-        int side = between(-12, 25);
-        char sense = anyOf("llge");
-        if (shape == 1 || shape == 5) {
-            boolean isTurned = chance(20);
-            for (int j = 0; j < columns; j++) {
-                co[j] = isTurned ? -between(0, 5) : between(0, 5);
-            }
-            sense = isTurned ? 'g' : anyOf("llle");
-            side = isTurned ? -between(-1, 8) : between(0, 8);
-            if (chance(25)) {
-                for (int j = 0; j < columns; j++) {
-                    co[j] = 2 * between(0, 2);
-                }
-                side = 2 * between(0, 3) + 1;
-                sense = 'e';
-            }
-        }
         if (shape == 3) {
             int same = between(-5, 5);
             for (int j = 0; j < columns; j++) {
-                co[j] = chance(75) ? same : between(-5, 5);
+                co[j] = chance(85) ? same : between(-5, 5);
             }
         }
         if (shape == 4) {
-            for (int j = 0; j < columns; j++) {
-                co[j] = 2 * between(-2, 2);
-            }
-            side = 2 * between(-3, 3) + 1;
-            sense = chance(60) ? 'e' : anyOf("lg");
+            tellEvenRow(co);
+        } else if (shape == 1 || shape == 5) {
+            tellKnapsack(co, shape);
+        } else {
+            tellHeldRow(co, anyOf("llge"));
         }
         if (chance(3)) {
-            sense = anyOf("lgex");
-            side = between(-101, 101);
-            co[between(0, 3)] = between(-7, 7);
+            tell("addRow", anyOf("lgex"), between(-101, 101), co[0], between(-6, 6), co[2], between(-6, 6));
         }
+    }
+
+    private void tellHeldRow(int[] co, char sense) {
+        int sum = 0;
+        for (int j = 0; j < columns; j++) {
+            sum += co[j] * hidden[j];
+        }
+        int spare = sense == 'l' ? between(0, 6) : sense == 'g' ? -between(0, 6) : 0;
+        if (chance(6)) {
+            spare = between(-9, 9);
+        }
+        int side = Math.max(-99, Math.min(99, sum + spare));
         tell("addRow", sense, side, co[0], co[1], co[2], co[3]);
+    }
+
+    /** Rows of even coefficients and odd sides have points, but none of whole numbers. */
+    private void tellEvenRow(int[] co) {
+        for (int j = 0; j < columns; j++) {
+            co[j] = 2 * between(-2, 2);
+        }
+        if (chance(60)) {
+            tell("addRow", 'e', 2 * between(-3, 3) + 1, co[0], co[1], co[2], co[3]);
+        } else {
+            tellHeldRow(co, anyOf("lg"));
+        }
+    }
+
+    private void tellKnapsack(int[] co, int shape) {
+        int same = between(1, 5);
+        int sum = 0;
+        for (int j = 0; j < columns; j++) {
+            co[j] = shape == 5 && chance(60) ? same : between(0, 5);
+            sum += co[j];
+        }
+        if (chance(25)) {
+            for (int j = 0; j < columns; j++) {
+                co[j] = 2 * between(0, 2);
+            }
+            tell("addRow", 'e', 2 * between(0, 3) + 1, co[0], co[1], co[2], co[3]);
+            return;
+        }
+        int side = chance(5) ? between(-3, 20) : between(Math.min(1, sum), Math.max(1, sum - 1));
+        if (chance(20)) {
+            tell("addRow", 'g', -side, -co[0], -co[1], -co[2], -co[3]);
+        } else {
+            tell("addRow", anyOf("l"), side, co[0], co[1], co[2], co[3]);
+        }
     }
 
     private char anyOf(String signs) {
