@@ -134,7 +134,8 @@ public final class ColumnsAndRowsTest {
         IS.same("3: the tree is begun anew", 1, lost.nodes());
         IS.same("3: its node is open", 'o', lost.state(0));
         IS.same("3: no cuts", 0, lost.cuts());
-        IS.same("3: no gains", 1, lost.gain(0, true));
+        IS.same("3: no gains", "1 1 1 1", lost.gain(0, true) + " " + lost.gain(0, false) + " "
+                + lost.gain(1, true) + " " + lost.gain(1, false));
         IS.fails("3: the best one is lost", lost, NoSuchElementException.class, lost::best);
         lost.solve(41);
         IS.same("3: the row counts", Checks.fraction(-10, 1), lost.best());
@@ -160,6 +161,13 @@ public final class ColumnsAndRowsTest {
     }
 
     private static void likenessIsLost() {
+        BranchQuarry others = columns(0, 1, -5, -5, -5);
+        others.begin('b', 'f');
+        others.cutByLikeness(1, 2);
+        others.solve(1);
+        others.addRow('l', 9, 0, 1, 1, 0);
+        IS.same("3: of other columns", false, others.areAlike(0, 1));
+        IS.same("3: the tree stays", 1, others.cuts());
         BranchQuarry q = columns(0, 1, -5, -5);
         q.addRow('l', 3, 2, 2, 0, 0);
         q.begin('b', 'f');
@@ -194,6 +202,17 @@ public final class ColumnsAndRowsTest {
         IS.same("4: z at least 8", 8, q.lower(2));
         q.begin('b', 'f');
         IS.fails("4: there is a tree", q, IllegalStateException.class, q::tighten);
+
+        BranchQuarry back = columns(0, 9, 1, 1);
+        back.addRow('l', 0, 1, -1, 0, 0);
+        back.addRow('l', 4, 0, 1, 0, 0);
+        IS.same("4: x <= y, y <= 4", 2, back.tighten());
+        IS.same("4: the first row again", 4, back.upper(0));
+        BranchQuarry forth = columns(0, 9, 1, 1);
+        forth.addRow('g', 0, 1, -1, 0, 0);
+        forth.addRow('g', 4, 0, 1, 0, 0);
+        IS.same("4: x >= y, y >= 4", 2, forth.tighten());
+        IS.same("4: the first row again", 4, forth.lower(0));
 
         BranchQuarry down = columns(-9, 9, 1);
         down.addRow('l', -7, 2, 0, 0, 0);

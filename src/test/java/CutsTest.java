@@ -197,6 +197,21 @@ public final class CutsTest {
         all.cutByCover(1);
         all.solve(1);
         IS.same("26: true at all nodes", "0 -699999", all.age(0) + " " + all.value(2));
+        BranchQuarry pairs = switches(-1, -1, -1, -1);
+        pairs.addRow('l', 5, 3, 3, 0, 0);
+        pairs.addRow('l', 5, 0, 0, 3, 3);
+        pairs.begin('d', 'f');
+        pairs.solve(1);
+        pairs.cutByCover(0);
+        pairs.cutByCover(1);
+        IS.same("26: one cover", "c 1 1 0 0 <= 1", Checks.cut(pairs, 0, 4));
+        IS.same("26: another cover", "c 0 0 1 1 <= 1", Checks.cut(pairs, 1, 4));
+        BranchQuarry zero = switches(0, 0);
+        zero.addRow('l', 0, 1, 1, 0, 0);
+        zero.begin('b', 'f');
+        zero.solve(1);
+        zero.cutByCover(0);
+        IS.same("26: a side of 0", "c 1 0 <= 0", Checks.cut(zero, 0, 2));
         BranchQuarry one = switches(-1, -1);
         one.addRow('l', 3, 5, 1, 0, 0);
         one.begin('d', 'f');
@@ -251,8 +266,8 @@ public final class CutsTest {
         q.addColumn(-1, 0, 2, true);
         q.addColumn(-1, -1, 1, true);
         q.addRow('l', 2, 3, 0, 0, 0);
-        q.addRow('l', 2, 3, 3, 0, 0);
-        q.addRow('l', 2, 3, 0, 3, 0);
+        q.addRow('l', 2, 3, 1, 0, 0);
+        q.addRow('l', 2, 3, 0, 1, 0);
         q.addRow('l', 9, 3, 0, 0, -1);
         q.addRow('g', -9, -3, 0, 0, -3);
         q.addRow('l', 0, 0, 0, 0, 0);
@@ -304,6 +319,10 @@ public final class CutsTest {
         without.begin('b', 'f');
         without.solve(1);
         IS.same("27: without it", Checks.fraction(1, 2) + " 100001", without.point(0, 1) + " " + without.point(0, 2));
+        without.cutByRounding(0, 0, 2);
+        without.begin('b', 'f');
+        without.cutByLikeness(0, 3);
+        IS.same("27: nothing of a cut of the tree ahead", "y -1 0 0 1 <= 0", Checks.cut(without, 0, 4));
         BranchQuarry loose = new BranchQuarry();
         loose.addColumn(1, -2, 5, false);
         loose.addColumn(1, -2, 5, false);
@@ -523,6 +542,12 @@ public final class CutsTest {
         IS.same("33: 3, 1 and 1 down by 3", "1 0", q.gain(1, false) + " " + q.gain(1, true));
         IS.same("33: nodes without a point have none", "0 2", q.gain(0, false) + " " + q.gain(0, true));
         IS.fails("33: column 2", q, NONE, () -> q.gain(2, true));
+        q.begin('b', 'f');
+        q.solve(1);
+        IS.same("33: none of the tree ahead", "1 1 1 1",
+                q.gain(0, true) + " " + q.gain(0, false) + " " + q.gain(1, true) + " " + q.gain(1, false));
+        q.solve(1);
+        IS.same("33: and no sums", "0 1", q.gain(0, false) + " " + q.gain(0, true));
     }
 
     /** 3x + 5y <= 17 and 5x <= 8 with the cut x <= 1, dropped ahead of the node 1: 0 and -1 by 2. */

@@ -15,7 +15,7 @@ public final class RandomRunsTest {
     private static final String[] RARE = {
         "tightened", "tighten empties a column", "unkept", "unlike", "unlike by a dropped cut",
         "begun anew with the best solution", "best lost", "tree stays", "too many nodes", "dropped",
-        "negative gain", "rule l chose a later column", "cut r", "cut c", "cut k", "cut y",
+        "rule l chose a later column", "cut r", "cut c", "cut k", "cut y",
         "lifted to more than 1", "left out of a cover again", "no choice to lift", "lifted",
         "offer taken", "round taken", "state b", "state s", "state p", "no point"
     };
@@ -154,6 +154,10 @@ public final class RandomRunsTest {
     }
 
     private void go() {
+        if (run % 4 == 3) {
+            goDeep();
+            return;
+        }
         int shape = run % 6;
         columns = shape == 0 ? between(0, 4) : between(2, chance(60) ? 3 : 4);
         if (shape == 1 || shape == 5) {
@@ -175,6 +179,54 @@ public final class RandomRunsTest {
         }
         if (chance(30)) {
             call("bestByAll");
+        }
+    }
+
+    /** Few rows and some cuts at the start, then node by node, so that cuts grow old and are dropped. */
+    private void goDeep() {
+        columns = between(2, 3);
+        boolean isLike = chance(40);
+        int cost = -between(0, 9);
+        int high = between(1, 9);
+        for (int j = 0; j < columns; j++) {
+            if (isLike) {
+                tellColumn(cost, 0, high, true);
+            } else {
+                int low = chance(30) ? -between(1, 3) : 0;
+                tellColumn(-between(0, 9), low, between(low + 1, 8), chance(93));
+            }
+        }
+        int rows = between(1, 3);
+        for (int k = 0; k < rows; k++) {
+            int same = between(1, 5);
+            int[] co = new int[4];
+            for (int j = 0; j < columns; j++) {
+                co[j] = isLike && (j < 2 || chance(50)) ? same : between(0, 5);
+            }
+            tell("addRow", 'l', between(5, 25), co[0], co[1], co[2], co[3]);
+        }
+        tell("begin", chance(70) ? 'd' : 'b', anyOf("fhl"));
+        for (int k = between(1, 3); k > 0; k--) {
+            if (isLike && chance(60)) {
+                tell("cutByLikeness", 0, 1);
+            } else {
+                tell("cutByRounding", 0, between(0, rows - 1), between(2, 5));
+            }
+        }
+        for (int k = 0; k < 41 && !isWrong; k++) {
+            tell("solve", 1);
+            if (chance(4)) {
+                tell("addRow", anyOf("lg"), between(5, 30), between(0, 2), between(0, 1), 0, 0);
+            }
+            if (chance(8)) {
+                tell("cutByRounding", anyNode(), between(0, rows - 1), between(2, 5));
+            }
+            if (chance(8)) {
+                tell("round", anyNode());
+            }
+            if (chance(4)) {
+                tell("cutByCover", 0);
+            }
         }
     }
 

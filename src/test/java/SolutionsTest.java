@@ -41,6 +41,16 @@ public final class SolutionsTest {
         IS.same("20: no node is solved by it", "o", Checks.states(q));
         q.solve(41);
         IS.same("20: the best one after it", Checks.fraction(-12, 1), q.best());
+        BranchQuarry four = new BranchQuarry();
+        for (int cost : new int[] {1, -2, 3, -4}) {
+            four.addColumn(cost, 0, 9, true);
+        }
+        four.addRow('e', 26, 1, 2, 3, 4);
+        four.begin('b', 'f');
+        IS.same("20: four columns", true, four.offer(2, 3, 2, 3));
+        IS.same("20: all of them count", Checks.fraction(-10, 1), four.best());
+        IS.same("20: each in its place", "200001 300001 200001 300001", four.solution(0) + " "
+                + four.solution(1) + " " + four.solution(2) + " " + four.solution(3));
         BranchQuarry loose = new BranchQuarry();
         loose.addColumn(2, -5, 5, false);
         loose.addRow('g', -3, 1, 0, 0, 0);
@@ -118,6 +128,12 @@ public final class SolutionsTest {
         IS.same("21: 7/5 to 1", Checks.fraction(1, 1), up.solution(2));
         IS.same("21: the cost", Checks.fraction(-37, 3), up.best());
         IS.same("21: the same one again", false, up.round(0));
+        IS.same("21: an offer after it", false, up.offer(2, 2, 1, 0));
+        up.begin('b', 'f');
+        IS.same("20: an offer after a rounding", true, up.offer(2, 2, 1, 0));
+        IS.same("20: has whole numbers", Checks.fraction(-11, 1), up.best());
+        up.solve(1);
+        IS.same("21: better than that", true, up.round(0));
         up.solve(41);
         IS.same("21: it is the best one of all", Checks.fraction(-37, 3), up.best());
 
@@ -173,6 +189,10 @@ public final class SolutionsTest {
         q.begin('b', 'f');
         q.solve(41);
         IS.same("24: as the tree finds it", Checks.fraction(q.bestByAll(), 1), q.best());
+        q.offer(99, 99, 99, 99);
+        IS.same("24: after an offer", -12, q.bestByAll());
+        q.round(5);
+        IS.same("24: after a rounding", -12, q.bestByAll());
         BranchQuarry four = new BranchQuarry();
         for (int cost : new int[] {9, -9, 9, -9}) {
             four.addColumn(cost, -9, -2, true);

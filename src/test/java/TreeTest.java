@@ -145,6 +145,9 @@ public final class TreeTest {
         learnt.solve(1);
         IS.same("10: all scores 1, so the lowest number", 1, learnt.upperAt(1, 0));
 
+        IS.same("10: 3/5 of 1/5, 3/5, 1/4 and 9", "9 0 9 9", halves(1, 5, 3, 5, 1, 4, 9, 1));
+        IS.same("10: 5/3 of 1/5, 9/5, 5/3 and 7/4", "9 9 1 9", halves(1, 5, 9, 5, 5, 3, 7, 4));
+        IS.same("10: -5/2 of -1/5, -5/2, -9/4 and 1/5", "9 -3 9 9", halves(-1, 5, -5, 2, -9, 4, 1, 5));
         // 1/3 and 2/3 are as far from the middle; 1/3 is that of column 1.
         BranchQuarry tie = new BranchQuarry();
         tie.addColumn(-1, 0, 1, true);
@@ -183,6 +186,22 @@ public final class TreeTest {
         mixed.begin('b', 'f');
         mixed.solve(1);
         IS.same("10: only whole columns are branched", "9 2", mixed.upperAt(1, 0) + " " + mixed.upperAt(1, 1));
+    }
+
+    /** The upper bounds of the node 1, for four columns at most top / bottom each, by the rule 'h'. */
+    private static String halves(int... tops) {
+        BranchQuarry q = new BranchQuarry();
+        for (int j = 0; j < 4; j++) {
+            q.addColumn(-1, -9, 9, true);
+        }
+        for (int j = 0; j < 4; j++) {
+            int[] co = new int[4];
+            co[j] = tops[2 * j + 1];
+            q.addRow('l', tops[2 * j], co[0], co[1], co[2], co[3]);
+        }
+        q.begin('b', 'h');
+        q.solve(1);
+        return q.upperAt(1, 0) + " " + q.upperAt(1, 1) + " " + q.upperAt(1, 2) + " " + q.upperAt(1, 3);
     }
 
     private static void closedByBound() {
