@@ -95,14 +95,14 @@ public final class CutsTest {
         IS.same("25: true at the node", Checks.fraction(1, 1), q.point(2, 1));
         IS.same("25: not true beside it", Checks.fraction(11, 4), q.point(1, 1));
         IS.same("25: its sum is its side at the node", 0, q.age(0));
-        q.solve(41);
-        for (int k = 3; k < q.nodes(); k++) {
-            boolean isUnder = q.lowerAt(k, 0) >= 2;
-            if (isUnder && q.state(k) != 'i') {
-                IS.same("25: true at those that come of it", true,
-                        Checks.fraction(3, 1) >= q.point(k, 0) + q.point(k, 1) - 1);
-            }
-        }
+        BranchQuarry left = two('b', 'f');
+        left.solve(1);
+        left.cutByRounding(1, 0, 2);
+        IS.same("25: for the node 1", "r 1 2 <= 6", Checks.cut(left, 0, 2));
+        left.solve(41);
+        IS.same("25: the node 1 keeps it", Checks.fraction(-13, 1), left.value(1));
+        IS.same("25: and so does the node 4, which comes of it", "1 " + Checks.fraction(-12, 1),
+                left.parent(4) + " " + left.value(4));
 
         BranchQuarry under = new BranchQuarry();
         under.addColumn(-1, 0, 9, true);

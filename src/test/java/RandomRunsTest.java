@@ -16,7 +16,7 @@ public final class RandomRunsTest {
         "tightened", "tighten empties a column", "unkept", "unlike", "unlike by a dropped cut",
         "begun anew with the best solution", "best lost", "tree stays", "too many nodes", "dropped",
         "rule l chose a later column", "cut r", "cut c", "cut k", "cut y",
-        "lifted to more than 1", "left out of a cover again", "no choice to lift", "lifted",
+        "left out of a cover again", "no choice to lift", "lifted",
         "offer taken", "round taken", "state b", "state s", "state p", "no point"
     };
 

@@ -146,6 +146,15 @@ public final class SolutionsTest {
             IS.same("21: " + at[0] + "/2 up from the middle", true, middle.round(0));
             IS.same("21: to " + at[1], Checks.fraction(at[1], 1), middle.solution(0));
         }
+        // 2x - y <= 1 with y dear: the node 2 has the point (1, 1), though (0, 0) is cheaper.
+        BranchQuarry whole = new BranchQuarry();
+        whole.addColumn(-1, 0, 9, true);
+        whole.addColumn(9, 0, 9, true);
+        whole.addRow('l', 1, 2, -1, 0, 0);
+        whole.begin('d', 'f');
+        whole.solve(2);
+        IS.same("21: a point of whole numbers stays as it is", false, whole.round(2));
+        IS.same("21: so nothing is better", Checks.fraction(8, 1), whole.best());
         BranchQuarry over = new BranchQuarry();
         over.addColumn(-1, 0, 9, true);
         over.addRow('l', 5, 3, 0, 0, 0);
