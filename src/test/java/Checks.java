@@ -17,13 +17,7 @@ final class Checks {
     /** The call throws just that exception, and nothing that can be looked at is other than before. */
     void fails(String what, BranchQuarry on, Class<? extends RuntimeException> due, Supplier<Object> call) {
         String before = picture(on);
-        String got;
-        try {
-            got = String.valueOf(call.get());
-        } catch (RuntimeException e) {
-            got = e.getClass().getName();
-        }
-        same(what, due.getName(), got);
+        same(what, due.getSimpleName(), answer(call));
         same(what + ", what can be looked at after it", before, picture(on));
     }
 
@@ -35,16 +29,21 @@ final class Checks {
         }
     }
 
+    /** What the call answers, or the plain name of what it throws. */
+    static String answer(Supplier<Object> call) {
+        try {
+            return String.valueOf(call.get());
+        } catch (RuntimeException e) {
+            return e.getClass().getSimpleName();
+        }
+    }
+
     static long fraction(long top, long bottom) {
         return 100000 * top + bottom;
     }
 
     private static void put(StringBuilder to, Supplier<Object> call) {
-        try {
-            to.append(call.get()).append(' ');
-        } catch (RuntimeException e) {
-            to.append(e.getClass().getSimpleName()).append(' ');
-        }
+        to.append(answer(call)).append(' ');
     }
 
     /** The answers of all calls that only look. */
@@ -58,6 +57,7 @@ final class Checks {
         put(to, on::gap);
         put(to, on::meanDepth);
         put(to, on::unkept);
+        put(to, on::bestByAll);
         for (int j = 0; j < 4; j++) {
             int column = j;
             put(to, () -> on.lower(column));

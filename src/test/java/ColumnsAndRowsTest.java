@@ -18,15 +18,6 @@ public final class ColumnsAndRowsTest {
         IS.end("ColumnsAndRowsTest");
     }
 
-    /** As many columns as there are costs, whole, with the same bounds. */
-    private static BranchQuarry columns(int lower, int upper, int... costs) {
-        BranchQuarry q = new BranchQuarry();
-        for (int cost : costs) {
-            q.addColumn(cost, lower, upper, true);
-        }
-        return q;
-    }
-
     private static void newObject() {
         BranchQuarry q = new BranchQuarry();
         IS.same("1: nodes", 0, q.nodes());
@@ -63,11 +54,11 @@ public final class ColumnsAndRowsTest {
         IS.same("2: lower", -9, q.lower(0));
         IS.same("2: upper", 2, q.upper(3));
 
-        BranchQuarry withRow = columns(0, 1, 1);
+        BranchQuarry withRow = Programs.columns(0, 1, 1);
         withRow.addRow('l', 1, 1, 0, 0, 0);
         IS.fails("2: there is a row", withRow, IllegalStateException.class,
                 () -> withRow.addColumn(0, 0, 1, true));
-        BranchQuarry withTree = columns(0, 1, 1);
+        BranchQuarry withTree = Programs.columns(0, 1, 1);
         withTree.begin('b', 'f');
         IS.fails("2: there is a tree", withTree, IllegalStateException.class,
                 () -> withTree.addColumn(0, 0, 1, true));
@@ -75,7 +66,7 @@ public final class ColumnsAndRowsTest {
     }
 
     private static void addRow() {
-        BranchQuarry q = columns(0, 9, 1, 1);
+        BranchQuarry q = Programs.columns(0, 9, 1, 1);
         Class<IllegalArgumentException> wrong = IllegalArgumentException.class;
         IS.fails("3: no such sense", q, wrong, () -> q.addRow('x', 0, 1, 0, 0, 0));
         IS.fails("3: no such sense", q, wrong, () -> q.addRow('L', 0, 1, 0, 0, 0));
@@ -94,14 +85,14 @@ public final class ColumnsAndRowsTest {
         IS.fails("3: a ninth row", q, IllegalStateException.class, () -> q.addRow('l', 0, 0, 0, 0, 0));
         IS.fails("3: wrong before full", q, wrong, () -> q.addRow('x', 0, 0, 0, 0, 0));
 
-        BranchQuarry four = columns(0, 1, 1, 1, 1, 1);
+        BranchQuarry four = Programs.columns(0, 1, 1, 1, 1, 1);
         IS.fails("3: c 6", four, wrong, () -> four.addRow('l', 0, 0, 0, 6, 0));
         IS.fails("3: d -6", four, wrong, () -> four.addRow('l', 0, 0, 0, 0, -6));
         IS.same("3: all four", 0, four.addRow('e', 0, 1, 2, 3, 4));
         BranchQuarry none = new BranchQuarry();
         IS.fails("3: no columns", none, wrong, () -> none.addRow('l', 0, 1, 0, 0, 0));
 
-        BranchQuarry senses = columns(0, 9, 1);
+        BranchQuarry senses = Programs.columns(0, 9, 1);
         senses.addRow('g', 2, 1, 0, 0, 0);
         senses.addRow('l', 9, 2, 0, 0, 0);
         IS.same("3: at least", 2, senses.bestByAll());
@@ -111,12 +102,8 @@ public final class ColumnsAndRowsTest {
         IS.fails("3: at most", senses, NoSuchElementException.class, senses::bestByAll);
     }
 
-    /** Maximise 3x + 4y under 2x + 4y <= 13 and 3x + 2y <= 9: the best one is (0, 3). */
     private static BranchQuarry solved(char order, char rule) {
-        BranchQuarry q = columns(0, 9, -3, -4);
-        q.addRow('l', 13, 2, 4, 0, 0);
-        q.addRow('l', 9, 3, 2, 0, 0);
-        q.begin(order, rule);
+        BranchQuarry q = Programs.two(order, rule);
         q.solve(41);
         return q;
     }
@@ -140,10 +127,7 @@ public final class ColumnsAndRowsTest {
         lost.solve(41);
         IS.same("3: the row counts", Checks.fraction(-10, 1), lost.best());
 
-        BranchQuarry open = columns(0, 9, -3, -4);
-        open.addRow('l', 13, 2, 4, 0, 0);
-        open.addRow('l', 9, 3, 2, 0, 0);
-        open.begin('b', 'f');
+        BranchQuarry open = Programs.two('b', 'f');
         open.solve(1);
         long value = open.value(0);
         open.addRow('l', 0, 1, 0, 0, 0);
@@ -161,14 +145,14 @@ public final class ColumnsAndRowsTest {
     }
 
     private static void likenessIsLost() {
-        BranchQuarry others = columns(0, 1, -5, -5, -5);
+        BranchQuarry others = Programs.columns(0, 1, -5, -5, -5);
         others.begin('b', 'f');
         others.cutByLikeness(1, 2);
         others.solve(1);
         others.addRow('l', 9, 0, 1, 1, 0);
         IS.same("3: of other columns", false, others.areAlike(0, 1));
         IS.same("3: the tree stays", 1, others.cuts());
-        BranchQuarry q = columns(0, 1, -5, -5);
+        BranchQuarry q = Programs.columns(0, 1, -5, -5);
         q.addRow('l', 3, 2, 2, 0, 0);
         q.begin('b', 'f');
         q.offer(0, 0, 0, 0);
@@ -188,7 +172,7 @@ public final class ColumnsAndRowsTest {
     }
 
     private static void tighten() {
-        BranchQuarry q = columns(0, 9, 1, 1, 1);
+        BranchQuarry q = Programs.columns(0, 9, 1, 1, 1);
         q.addRow('l', -3, 1, -1, 0, 0);
         q.addRow('l', -3, 0, 1, -1, 0);
         IS.same("4: x + 3 <= y, y + 3 <= z", 4, q.tighten());
@@ -203,34 +187,34 @@ public final class ColumnsAndRowsTest {
         q.begin('b', 'f');
         IS.fails("4: there is a tree", q, IllegalStateException.class, q::tighten);
 
-        BranchQuarry back = columns(0, 9, 1, 1);
+        BranchQuarry back = Programs.columns(0, 9, 1, 1);
         back.addRow('l', 0, 1, -1, 0, 0);
         back.addRow('l', 4, 0, 1, 0, 0);
         IS.same("4: x <= y, y <= 4", 2, back.tighten());
         IS.same("4: the first row again", 4, back.upper(0));
-        BranchQuarry forth = columns(0, 9, 1, 1);
+        BranchQuarry forth = Programs.columns(0, 9, 1, 1);
         forth.addRow('g', 0, 1, -1, 0, 0);
         forth.addRow('g', 4, 0, 1, 0, 0);
         IS.same("4: x >= y, y >= 4", 2, forth.tighten());
         IS.same("4: the first row again", 4, forth.lower(0));
 
-        BranchQuarry down = columns(-9, 9, 1);
+        BranchQuarry down = Programs.columns(-9, 9, 1);
         down.addRow('l', -7, 2, 0, 0, 0);
         IS.same("4: 2x <= -7", 1, down.tighten());
         IS.same("4: rounded down", -4, down.upper(0));
-        BranchQuarry up = columns(-9, 9, 1);
+        BranchQuarry up = Programs.columns(-9, 9, 1);
         up.addRow('g', -7, 2, 0, 0, 0);
         IS.same("4: 2x >= -7", 1, up.tighten());
         IS.same("4: rounded up", -3, up.lower(0));
-        BranchQuarry turned = columns(-9, 9, 1);
+        BranchQuarry turned = Programs.columns(-9, 9, 1);
         turned.addRow('l', 7, -2, 0, 0, 0);
         turned.tighten();
         IS.same("4: -2x <= 7", -3, turned.lower(0));
-        BranchQuarry edge = columns(0, 4, 1);
+        BranchQuarry edge = Programs.columns(0, 4, 1);
         edge.addRow('l', 8, 2, 0, 0, 0);
         IS.same("4: the edge itself stays", 0, edge.tighten());
 
-        BranchQuarry cascade = columns(0, 9, 1, 1);
+        BranchQuarry cascade = Programs.columns(0, 9, 1, 1);
         cascade.addRow('l', 9, 1, 0, 0, 0);
         cascade.addRow('e', 7, 2, 2, 0, 0);
         IS.fails("4: 2x + 2y = 7", cascade, UnsupportedOperationException.class, cascade::tighten);
@@ -246,7 +230,7 @@ public final class ColumnsAndRowsTest {
         IS.same("4: with the other one at its least", 3, mixed.upper(0));
         IS.same("4: the other one stays", 8, mixed.upper(1));
 
-        BranchQuarry equal = columns(0, 9, 1, 1);
+        BranchQuarry equal = Programs.columns(0, 9, 1, 1);
         equal.addRow('e', 4, 1, 1, 0, 0);
         equal.addRow('e', 3, 1, 0, 0, 0);
         IS.same("4: x + y = 4, x = 3", 4, equal.tighten());
@@ -256,13 +240,13 @@ public final class ColumnsAndRowsTest {
         loose.addColumn(1, 0, 9, false);
         loose.addRow('g', 99, 1, 0, 0, 0);
         IS.same("4: a row without whole columns", 0, loose.tighten());
-        BranchQuarry empty = columns(0, 9, 1);
+        BranchQuarry empty = Programs.columns(0, 9, 1);
         empty.addRow('l', -1, 0, 0, 0, 0);
         IS.same("4: a row without coefficients", 0, empty.tighten());
-        BranchQuarry single = columns(0, 9, 1);
+        BranchQuarry single = Programs.columns(0, 9, 1);
         single.addRow('e', 3, 2, 0, 0, 0);
         IS.fails("4: 2x = 3", single, UnsupportedOperationException.class, single::tighten);
-        BranchQuarry many = columns(0, 9, 1, 1);
+        BranchQuarry many = Programs.columns(0, 9, 1, 1);
         many.addRow('l', 3, 1, 0, 0, 0);
         many.addRow('g', 4, 1, 0, 0, 0);
         IS.fails("4: x <= 3, x >= 4", many, UnsupportedOperationException.class, many::tighten);
@@ -307,7 +291,7 @@ public final class ColumnsAndRowsTest {
         IS.same("7: upper bounds", false, areAlike(plain, true, new int[] {1, 0, 4}, true));
         IS.same("7: kinds", false, areAlike(plain, true, plain, false));
 
-        BranchQuarry q = columns(0, 5, 1, 1, 1);
+        BranchQuarry q = Programs.columns(0, 5, 1, 1, 1);
         IS.same("7: a column and itself", true, q.areAlike(1, 1));
         q.addRow('l', 4, 1, 2, 3, 0);
         IS.same("7: an exchanged row is missing", false, q.areAlike(0, 1));
@@ -324,13 +308,13 @@ public final class ColumnsAndRowsTest {
         q.addRow('g', 7, 1, 0, 0, 0);
         q.addRow('l', 7, 0, 1, 0, 0);
         IS.same("7: another sense", false, q.areAlike(0, 1));
-        BranchQuarry sides = columns(0, 5, 1, 1);
+        BranchQuarry sides = Programs.columns(0, 5, 1, 1);
         sides.addRow('l', 4, 1, 0, 0, 0);
         IS.same("7: a row of one alone", false, sides.areAlike(0, 1));
         sides.tighten();
         sides.addRow('l', 3, 0, 1, 0, 0);
         IS.same("7: another side", false, sides.areAlike(0, 1));
-        BranchQuarry told = columns(0, 5, 1, 1);
+        BranchQuarry told = Programs.columns(0, 5, 1, 1);
         told.addRow('l', 4, 1, 0, 0, 0);
         told.tighten();
         told.addRow('l', 4, 0, 1, 0, 0);
@@ -342,7 +326,7 @@ public final class ColumnsAndRowsTest {
     }
 
     private static void unkept() {
-        BranchQuarry q = columns(0, 9, 1, 1);
+        BranchQuarry q = Programs.columns(0, 9, 1, 1);
         IS.fails("8: no rows", q, NoSuchElementException.class, q::unkept);
         q.addRow('e', 1, 2, 2, 0, 0);
         IS.fails("8: whole or not", q, NoSuchElementException.class, q::unkept);
@@ -354,13 +338,13 @@ public final class ColumnsAndRowsTest {
         q.addRow('l', -1, 0, 0, 0, 0);
         IS.same("8: a row that cannot hold by itself", 16, q.unkept());
 
-        BranchQuarry pairs = columns(-9, 9, 1);
+        BranchQuarry pairs = Programs.columns(-9, 9, 1);
         pairs.addRow('g', 3, 1, 0, 0, 0);
         pairs.addRow('l', 2, 1, 0, 0, 0);
         pairs.addRow('g', 4, 1, 0, 0, 0);
         IS.same("8: x >= 3 is left out", 2 + 4, pairs.unkept());
 
-        BranchQuarry bounds = columns(0, 9, 1, 1);
+        BranchQuarry bounds = Programs.columns(0, 9, 1, 1);
         bounds.addRow('l', 5, 1, 0, 0, 0);
         bounds.tighten();
         bounds.addRow('g', 15, 1, 1, 0, 0);
@@ -368,7 +352,7 @@ public final class ColumnsAndRowsTest {
         bounds.addRow('g', 19, 1, 1, 0, 0);
         IS.same("8: the bounds alone", 4, bounds.unkept());
 
-        BranchQuarry three = columns(0, 9, 0, 0, 0);
+        BranchQuarry three = Programs.columns(0, 9, 0, 0, 0);
         three.addRow('l', 2, 1, 1, 0, 0);
         three.addRow('l', 2, 0, 1, 1, 0);
         three.addRow('l', 2, 1, 0, 1, 0);

@@ -29,25 +29,6 @@ public final class CutsTest {
         IS.end("CutsTest");
     }
 
-    /** As many whole columns from 0 to 1 as there are costs. */
-    private static BranchQuarry switches(int... costs) {
-        BranchQuarry q = new BranchQuarry();
-        for (int cost : costs) {
-            q.addColumn(cost, 0, 1, true);
-        }
-        return q;
-    }
-
-    private static BranchQuarry two(char order, char rule) {
-        BranchQuarry q = new BranchQuarry();
-        q.addColumn(-3, 0, 9, true);
-        q.addColumn(-4, 0, 9, true);
-        q.addRow('l', 13, 2, 4, 0, 0);
-        q.addRow('l', 9, 3, 2, 0, 0);
-        q.begin(order, rule);
-        return q;
-    }
-
     /** Makes cuts until there are as many as that. */
     private static void fill(BranchQuarry q, int count) {
         for (int k = q.cuts(); k < count; k++) {
@@ -56,7 +37,7 @@ public final class CutsTest {
     }
 
     private static void rounding() {
-        BranchQuarry q = two('b', 'f');
+        BranchQuarry q = Programs.two('b', 'f');
         IS.same("25: the first cut", 0, q.cutByRounding(0, 0, 2));
         IS.same("25: 2x + 4y <= 13 by 2", "r 1 2 <= 6", Checks.cut(q, 0, 2));
         IS.same("25: the second cut", 1, q.cutByRounding(0, 0, 3));
@@ -86,7 +67,7 @@ public final class CutsTest {
     }
 
     private static void roundingAtNodes() {
-        BranchQuarry q = two('b', 'f');
+        BranchQuarry q = Programs.two('b', 'f');
         q.solve(1);
         // 3x + 2y <= 9 with x at least 2: left 3, by 2: 1; shift 1 * 2.
         q.cutByRounding(2, 1, 2);
@@ -95,7 +76,7 @@ public final class CutsTest {
         IS.same("25: true at the node", Checks.fraction(1, 1), q.point(2, 1));
         IS.same("25: not true beside it", Checks.fraction(11, 4), q.point(1, 1));
         IS.same("25: its sum is its side at the node", 0, q.age(0));
-        BranchQuarry left = two('b', 'f');
+        BranchQuarry left = Programs.two('b', 'f');
         left.solve(1);
         left.cutByRounding(1, 0, 2);
         IS.same("25: for the node 1", "r 1 2 <= 6", Checks.cut(left, 0, 2));
@@ -158,7 +139,7 @@ public final class CutsTest {
 
     /** The cut of a row of sense 'l' on columns of these costs, whose point says what is taken first. */
     private static String cover(int[] costs, int side, int... row) {
-        BranchQuarry q = switches(costs);
+        BranchQuarry q = Programs.switches(costs);
         q.addRow('l', side, row[0], row[1], row[2], row[3]);
         q.begin('b', 'f');
         q.solve(1);
@@ -179,7 +160,7 @@ public final class CutsTest {
         IS.same("26: left out again", "c 0 1 1 0 <= 1", cover(new int[] {-5, -9, -5, 0}, 7, 1, 3, 5, 0));
         // All three are taken; without column 0 it is 7 > 6, and then 5 without column 1.
         IS.same("26: left out by rising numbers", "c 0 1 1 0 <= 1", cover(new int[] {-9, -9, -9, 0}, 6, 2, 2, 5, 0));
-        BranchQuarry turned = switches(-1, -1);
+        BranchQuarry turned = Programs.switches(-1, -1);
         turned.addRow('g', -5, -3, -3, 0, 0);
         turned.addRow('e', 5, 3, 3, 0, 0);
         turned.begin('d', 'h');
@@ -188,7 +169,7 @@ public final class CutsTest {
         IS.same("26: 'g', all signs turned", "c 1 1 <= 1", Checks.cut(turned, 0, 2));
         IS.same("26: row 1", 1, turned.cutByCover(1));
         IS.same("26: 'e', as it stands", "c 1 1 <= 1", Checks.cut(turned, 1, 2));
-        BranchQuarry all = switches(-5, -4, -3);
+        BranchQuarry all = Programs.switches(-5, -4, -3);
         all.addRow('l', 4, 2, 2, 2, 0);
         all.addRow('l', 3, 2, 2, 0, 0);
         all.begin('d', 'f');
@@ -197,7 +178,7 @@ public final class CutsTest {
         all.cutByCover(1);
         all.solve(1);
         IS.same("26: true at all nodes", "0 -699999", all.age(0) + " " + all.value(2));
-        BranchQuarry pairs = switches(-1, -1, -1, -1);
+        BranchQuarry pairs = Programs.switches(-1, -1, -1, -1);
         pairs.addRow('l', 5, 3, 3, 0, 0);
         pairs.addRow('l', 5, 0, 0, 3, 3);
         pairs.begin('d', 'f');
@@ -206,13 +187,13 @@ public final class CutsTest {
         pairs.cutByCover(1);
         IS.same("26: one cover", "c 1 1 0 0 <= 1", Checks.cut(pairs, 0, 4));
         IS.same("26: another cover", "c 0 0 1 1 <= 1", Checks.cut(pairs, 1, 4));
-        BranchQuarry zero = switches(0, 0);
+        BranchQuarry zero = Programs.switches(0, 0);
         zero.addRow('l', 0, 1, 1, 0, 0);
         zero.begin('b', 'f');
         zero.solve(1);
         zero.cutByCover(0);
         IS.same("26: a side of 0", "c 1 0 <= 0", Checks.cut(zero, 0, 2));
-        BranchQuarry one = switches(-1, -1);
+        BranchQuarry one = Programs.switches(-1, -1);
         one.addRow('l', 3, 5, 1, 0, 0);
         one.begin('d', 'f');
         one.solve(1);
@@ -233,7 +214,7 @@ public final class CutsTest {
     }
 
     private static void coversRefuse() {
-        BranchQuarry q = switches(-1, -1);
+        BranchQuarry q = Programs.switches(-1, -1);
         q.addRow('l', 5, 3, 3, 0, 0);
         q.addRow('l', 6, 3, 3, 0, 0);
         IS.fails("26: row -1", q, NONE, () -> q.cutByCover(-1));
@@ -251,7 +232,7 @@ public final class CutsTest {
         q.solve(1);
         IS.fails("26: no cover", q, NO, () -> q.cutByCover(1));
         IS.same("26: a cover", 0, q.cutByCover(0));
-        BranchQuarry empty = switches(-1);
+        BranchQuarry empty = Programs.switches(-1);
         empty.addRow('l', 0, 1, 0, 0, 0);
         empty.addRow('g', 1, 1, 0, 0, 0);
         empty.begin('b', 'f');
@@ -282,7 +263,7 @@ public final class CutsTest {
         IS.fails("26: less than 0 once the signs are turned", q, NO, () -> q.cutByCover(6));
         IS.same("26: the others do not matter", 0, q.cutByCover(0));
         // A later row that no point keeps leaves the tree and the point of its node 0.
-        BranchQuarry minus = switches(-1, -1);
+        BranchQuarry minus = Programs.switches(-1, -1);
         minus.addRow('l', 1, 2, 2, 0, 0);
         minus.begin('b', 'f');
         minus.solve(1);
@@ -305,7 +286,7 @@ public final class CutsTest {
     }
 
     private static void likeness() {
-        BranchQuarry q = switches(-4, -5, -5, -4);
+        BranchQuarry q = Programs.switches(-4, -5, -5, -4);
         q.addRow('l', 3, 0, 2, 2, 0);
         q.begin('b', 'f');
         IS.same("27: the first cut", 0, q.cutByLikeness(1, 2));
@@ -314,7 +295,7 @@ public final class CutsTest {
         IS.same("27: column 0 at least as great", "y -1 0 0 1 <= 0", Checks.cut(q, 1, 4));
         q.solve(1);
         IS.same("27: the point keeps it", "300004 300004", q.point(0, 1) + " " + q.point(0, 2));
-        BranchQuarry without = switches(-4, -5, -5, -4);
+        BranchQuarry without = Programs.switches(-4, -5, -5, -4);
         without.addRow('l', 3, 0, 2, 2, 0);
         without.begin('b', 'f');
         without.solve(1);
@@ -331,7 +312,7 @@ public final class CutsTest {
     }
 
     private static void likenessRefuses() {
-        BranchQuarry q = switches(1, 1, 2);
+        BranchQuarry q = Programs.switches(1, 1, 2);
         q.addRow('l', 3, 1, 1, 1, 0);
         IS.fails("27: column -1", q, NONE, () -> q.cutByLikeness(-1, 0));
         IS.fails("27: column 3", q, NONE, () -> q.cutByLikeness(0, 3));
@@ -351,7 +332,7 @@ public final class CutsTest {
 
     /** 2x + 2y = 1: the nodes 2, 3 and 4 have no point. */
     private static void conflicts() {
-        BranchQuarry q = switches(0, 0);
+        BranchQuarry q = Programs.switches(0, 0);
         q.addRow('e', 1, 2, 2, 0, 0);
         q.begin('b', 'f');
         IS.same("10: both nodes above have points", 2, q.solve(2));
@@ -366,11 +347,11 @@ public final class CutsTest {
         IS.same("10: all are solved", "ppiii", Checks.states(q));
 
         // With 3 columns, the conflict of one node takes the point of a node elsewhere away.
-        BranchQuarry known = switches(0, 0, 0);
+        BranchQuarry known = Programs.switches(0, 0, 0);
         known.addRow('e', 3, 2, 2, 2, 0);
         known.begin('d', 'f');
         known.solve(41);
-        BranchQuarry full = switches(0, 0, 0);
+        BranchQuarry full = Programs.switches(0, 0, 0);
         full.addRow('e', 3, 2, 2, 2, 0);
         full.begin('d', 'f');
         fill(full, 14);
@@ -378,7 +359,7 @@ public final class CutsTest {
         IS.same("28: only 16 are made", 16, full.cuts());
         IS.same("10: the last ones are conflicts", "r k k", full.kind(13) + " " + full.kind(14) + " " + full.kind(15));
         IS.same("10: fewer conflicts, more nodes", true, full.nodes() >= known.nodes() && known.cuts() < 16);
-        BranchQuarry tight = switches(0, 0, 0);
+        BranchQuarry tight = Programs.switches(0, 0, 0);
         tight.addRow('l', 0, 0, 0, 1, 0);
         tight.tighten();
         tight.addRow('e', 1, 2, 2, 2, 0);
@@ -404,7 +385,7 @@ public final class CutsTest {
         told.begin('b', 'f');
         told.solve(41);
         IS.same("28: tight or not, not told from 0 to 1", 0, told.cuts());
-        BranchQuarry full = switches(0, 0);
+        BranchQuarry full = Programs.switches(0, 0);
         full.addRow('e', 1, 2, 2, 0, 0);
         full.begin('b', 'f');
         fill(full, 16);
@@ -414,10 +395,10 @@ public final class CutsTest {
     }
 
     private static void looks() {
-        BranchQuarry none = switches(0);
+        BranchQuarry none = Programs.switches(0);
         IS.same("28: no tree", 0, none.cuts());
         IS.fails("29: no tree", none, NONE, () -> none.kind(0));
-        BranchQuarry q = switches(-5, -5, 0);
+        BranchQuarry q = Programs.switches(-5, -5, 0);
         q.addRow('l', 3, 2, 2, 0, 0);
         q.begin('b', 'f');
         q.solve(1);
@@ -443,7 +424,7 @@ public final class CutsTest {
     }
 
     private static void ages() {
-        BranchQuarry q = two('b', 'f');
+        BranchQuarry q = Programs.two('b', 'f');
         q.cutByRounding(0, 0, 5);
         q.cutByRounding(0, 0, 2);
         q.solve(1);
@@ -464,7 +445,7 @@ public final class CutsTest {
         IS.same("32: it stays dropped", 4, q.age(0));
         IS.same("32: and is still a cut", "3 r 0 0 <= 2", q.cuts() + " " + Checks.cut(q, 0, 2));
         IS.same("32: the one at the node 1 too", true, q.age(2) >= age);
-        BranchQuarry never = switches(-1);
+        BranchQuarry never = Programs.switches(-1);
         never.addRow('l', 1, 2, 0, 0, 0);
         never.begin('b', 'f');
         never.solve(1);
@@ -523,11 +504,11 @@ public final class CutsTest {
     }
 
     private static void gains() {
-        BranchQuarry none = switches(0);
+        BranchQuarry none = Programs.switches(0);
         IS.fails("33: column -1", none, NONE, () -> none.gain(-1, true));
         IS.fails("33: column 1, before the tree", none, NONE, () -> none.gain(1, false));
         IS.fails("33: no tree", none, STATE, () -> none.gain(0, true));
-        BranchQuarry q = two('b', 'f');
+        BranchQuarry q = Programs.two('b', 'f');
         IS.same("33: 1 if there are none", "1 1", q.gain(0, true) + " " + q.gain(0, false));
         q.solve(1);
         IS.same("33: the node 0 has none", "1 1 1 1",

@@ -9,17 +9,8 @@ public final class FiguresTest {
         IS.end("FiguresTest");
     }
 
-    private static BranchQuarry two() {
-        BranchQuarry q = new BranchQuarry();
-        q.addColumn(-3, 0, 9, true);
-        q.addColumn(-4, 0, 9, true);
-        q.addRow('l', 13, 2, 4, 0, 0);
-        q.addRow('l', 9, 3, 2, 0, 0);
-        return q;
-    }
-
     private static void gap() {
-        BranchQuarry q = two();
+        BranchQuarry q = Programs.two();
         IS.fails("34: no tree", q, ArithmeticException.class, q::gap);
         q.begin('b', 'f');
         IS.fails("34: nothing", q, ArithmeticException.class, q::gap);
@@ -103,7 +94,7 @@ public final class FiguresTest {
     }
 
     private static void meanDepth() {
-        BranchQuarry q = two();
+        BranchQuarry q = Programs.two();
         IS.fails("35: no tree", q, ArithmeticException.class, q::meanDepth);
         q.begin('b', 'f');
         IS.same("35: the node 0", 0.0, q.meanDepth());

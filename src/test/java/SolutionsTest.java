@@ -17,17 +17,8 @@ public final class SolutionsTest {
         IS.end("SolutionsTest");
     }
 
-    private static BranchQuarry two() {
-        BranchQuarry q = new BranchQuarry();
-        q.addColumn(-3, 0, 9, true);
-        q.addColumn(-4, 0, 9, true);
-        q.addRow('l', 13, 2, 4, 0, 0);
-        q.addRow('l', 9, 3, 2, 0, 0);
-        return q;
-    }
-
     private static void offer() {
-        BranchQuarry q = two();
+        BranchQuarry q = Programs.two();
         IS.fails("20: no tree", q, IllegalStateException.class, () -> q.offer(0, 0, 0, 0));
         q.begin('b', 'f');
         IS.same("20: the first one", true, q.offer(1, 1, 0, 0));
@@ -92,7 +83,7 @@ public final class SolutionsTest {
     }
 
     private static void round() {
-        BranchQuarry q = two();
+        BranchQuarry q = Programs.two();
         IS.fails("21: no tree", q, NONE, () -> q.round(0));
         q.begin('b', 'f');
         IS.fails("21: open", q, NOTHING, () -> q.round(0));
@@ -166,7 +157,7 @@ public final class SolutionsTest {
     }
 
     private static void bestAndSolution() {
-        BranchQuarry q = two();
+        BranchQuarry q = Programs.two();
         IS.fails("22: no tree", q, NOTHING, q::best);
         IS.fails("23: no tree", q, NOTHING, () -> q.solution(0));
         q.begin('b', 'f');
@@ -193,7 +184,7 @@ public final class SolutionsTest {
     }
 
     private static void bestByAll() {
-        BranchQuarry q = two();
+        BranchQuarry q = Programs.two();
         IS.same("24: without a tree", -12, q.bestByAll());
         q.begin('b', 'f');
         q.solve(41);

@@ -24,17 +24,6 @@ public final class TreeTest {
         IS.end("TreeTest");
     }
 
-    /** Maximise 3x + 4y under 2x + 4y <= 13 and 3x + 2y <= 9, both from 0 to 9. */
-    private static BranchQuarry two(char order, char rule) {
-        BranchQuarry q = new BranchQuarry();
-        q.addColumn(-3, 0, 9, true);
-        q.addColumn(-4, 0, 9, true);
-        q.addRow('l', 13, 2, 4, 0, 0);
-        q.addRow('l', 9, 3, 2, 0, 0);
-        q.begin(order, rule);
-        return q;
-    }
-
     private static void begin() {
         BranchQuarry q = new BranchQuarry();
         IS.fails("9: no columns", q, IllegalStateException.class, () -> q.begin('b', 'f'));
@@ -66,7 +55,7 @@ public final class TreeTest {
     }
 
     private static void beginAgain() {
-        BranchQuarry q = two('b', 'f');
+        BranchQuarry q = Programs.two('b', 'f');
         q.solve(41);
         q.cutByRounding(0, 0, 2);
         IS.same("9: a gain ahead", 2, q.gain(0, true));
@@ -81,7 +70,7 @@ public final class TreeTest {
     }
 
     private static void solve() {
-        BranchQuarry q = two('b', 'f');
+        BranchQuarry q = Programs.two('b', 'f');
         IS.fails("10: 0 nodes", q, WRONG, () -> q.solve(0));
         IS.fails("10: 42 nodes", q, WRONG, () -> q.solve(42));
         IS.fails("10: -1 nodes", q, WRONG, () -> q.solve(-1));
@@ -119,12 +108,12 @@ public final class TreeTest {
     private static void orders() {
         // Worked by hand. The node 1 has the value -14 and the node 2 has -12, so 'b' goes on with
         // 3 and 4 under 1 (after 2, whose bound is that of the node 0), 'd' with 4 and 3 under 2.
-        BranchQuarry least = two('b', 'f');
+        BranchQuarry least = Programs.two('b', 'f');
         least.solve(4);
         IS.same("10: least bound first", "pppsooo", Checks.states(least));
         least.solve(41);
         IS.same("10: all by least bound", "pppspbipisi", Checks.states(least));
-        BranchQuarry last = two('d', 'f');
+        BranchQuarry last = Programs.two('d', 'f');
         last.solve(2);
         IS.same("10: greatest number first", "popoo", Checks.states(last));
         last.solve(2);
@@ -134,14 +123,14 @@ public final class TreeTest {
     }
 
     private static void rules() {
-        BranchQuarry first = two('b', 'f');
+        BranchQuarry first = Programs.two('b', 'f');
         first.solve(1);
         IS.same("10: the lowest number", "1 2", first.upperAt(1, 0) + " " + first.lowerAt(2, 0));
-        BranchQuarry half = two('b', 'h');
+        BranchQuarry half = Programs.two('b', 'h');
         half.solve(1);
         IS.same("10: 21/8 is nearer to the middle than 5/4", "2 3", half.upperAt(1, 1) + " " + half.lowerAt(2, 1));
         IS.same("10: the other column stays", "9 0", half.upperAt(1, 0) + " " + half.lowerAt(2, 0));
-        BranchQuarry learnt = two('b', 'l');
+        BranchQuarry learnt = Programs.two('b', 'l');
         learnt.solve(1);
         IS.same("10: all scores 1, so the lowest number", 1, learnt.upperAt(1, 0));
 
@@ -205,7 +194,7 @@ public final class TreeTest {
     }
 
     private static void closedByBound() {
-        BranchQuarry q = two('b', 'f');
+        BranchQuarry q = Programs.two('b', 'f');
         q.offer(0, 3, 0, 0);
         q.solve(41);
         IS.same("10: with the best one from the start", 'b', q.state(2));
@@ -225,12 +214,9 @@ public final class TreeTest {
         IS.same("10: is the best one", Checks.fraction(3, 1), worse.solution(0));
     }
 
-    /** 2x + 2y = 1 with wide bounds: each branching leaves one open node and one without a point. */
+    /** Each branching leaves one open node and one without a point. */
     private static void tooManyNodes() {
-        BranchQuarry q = new BranchQuarry();
-        q.addColumn(0, -9, 9, true);
-        q.addColumn(0, -9, 9, true);
-        q.addRow('e', 1, 2, 2, 0, 0);
+        BranchQuarry q = Programs.never();
         q.begin('b', 'f');
         q.cutByRounding(0, 0, 5);
         IS.same("10: solving stops", 39, q.solve(41));
@@ -291,7 +277,7 @@ public final class TreeTest {
         BranchQuarry q = new BranchQuarry();
         IS.same("11: without a tree", 0, q.nodes());
         IS.same("12: without a tree", 0, q.open());
-        BranchQuarry t = two('b', 'f');
+        BranchQuarry t = Programs.two('b', 'f');
         IS.same("11: the node 0", 1, t.nodes());
         IS.same("12: it is open", 1, t.open());
         t.solve(1);
@@ -309,7 +295,7 @@ public final class TreeTest {
         BranchQuarry q = new BranchQuarry();
         IS.fails("13: no tree", q, NONE, () -> q.state(0));
         IS.fails("14: no tree", q, NONE, () -> q.parent(0));
-        BranchQuarry t = two('b', 'f');
+        BranchQuarry t = Programs.two('b', 'f');
         IS.same("13: open", 'o', t.state(0));
         IS.fails("14: the node 0", t, NOTHING, () -> t.parent(0));
         t.solve(41);
@@ -328,7 +314,7 @@ public final class TreeTest {
     }
 
     private static void bounds() {
-        BranchQuarry t = two('b', 'f');
+        BranchQuarry t = Programs.two('b', 'f');
         t.solve(41);
         IS.same("15: down keeps the lower bound", 0, t.lowerAt(1, 0));
         IS.same("16: down", 1, t.upperAt(1, 0));
@@ -347,7 +333,7 @@ public final class TreeTest {
     }
 
     private static void valuesAndPoints() {
-        BranchQuarry t = two('b', 'f');
+        BranchQuarry t = Programs.two('b', 'f');
         IS.fails("17: open", t, NOTHING, () -> t.value(0));
         IS.fails("18: open", t, NOTHING, () -> t.point(0, 0));
         t.solve(41);
@@ -378,7 +364,7 @@ public final class TreeTest {
     private static void bound() {
         BranchQuarry none = new BranchQuarry();
         IS.fails("19: no tree", none, NOTHING, none::bound);
-        BranchQuarry t = two('b', 'f');
+        BranchQuarry t = Programs.two('b', 'f');
         IS.fails("19: the node 0 is open", t, NOTHING, t::bound);
         t.offer(0, 0, 0, 0);
         IS.fails("19: the node 0 is open, with a best one", t, NOTHING, t::bound);
@@ -389,10 +375,10 @@ public final class TreeTest {
         t.solve(41);
         IS.same("19: the best one at the end", Checks.fraction(-12, 1), t.bound());
         // Nodes 6 and 5 are solutions by now, and the node 1 is open.
-        BranchQuarry met = two('d', 'f');
+        BranchQuarry met = Programs.two('d', 'f');
         met.solve(6);
         IS.same("19: open nodes and a best one", Checks.fraction(-57, 4), met.bound());
-        BranchQuarry less = two('b', 'f');
+        BranchQuarry less = Programs.two('b', 'f');
         less.solve(3);
         less.offer(0, 3, 0, 0);
         less.solve(6);
