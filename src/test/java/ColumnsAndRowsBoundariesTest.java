@@ -606,7 +606,8 @@ public final class ColumnsAndRowsBoundariesTest {
                     int other = second;
                     boolean isDue = Math.min(first, second) >= 0 && Math.max(first, second) < columns;
                     IS.same("7: " + first + " and " + second + " of " + columns,
-                            isDue ? "true" : "IndexOutOfBoundsException", Checks.answer(() -> q.areAlike(column, other)));
+                            isDue ? "true" : "IndexOutOfBoundsException",
+                            Checks.answer(() -> q.areAlike(column, other)));
                 }
             }
             for (int far : FAR) {

@@ -445,7 +445,8 @@ public final class CutsBoundariesTest {
             IS.same("26: 2, 2, 1 and " + factor + " with the side 4", "c 1 1 1 " + fours[factor - 1] + " <= 2",
                     coverBy(costs, 4, 2, 2, 1, factor));
         }
-        IS.same("26: one of two alike, and the next by it", "c 1 1 1 0 <= 1", coverBy(new int[] {-5, -4, 0, 0}, 5, 5, 5, 1, 1));
+        IS.same("26: one of two alike, and the next by it", "c 1 1 1 0 <= 1",
+                coverBy(new int[] {-5, -4, 0, 0}, 5, 5, 5, 1, 1));
         IS.same("26: no room at all", "c 1 0 0 0 <= 0", coverBy(new int[] {-5, 0, 0, 0}, 0, 1, 1, 5, 0));
     }
 
@@ -588,7 +589,8 @@ public final class CutsBoundariesTest {
         bound.solve(1);
         bound.offer(0, 0, 0, 0);
         bound.solve(1);
-        IS.same("28: a node that is closed by its bound makes none", "pbo 0", Checks.states(bound) + " " + bound.cuts());
+        IS.same("28: a node that is closed by its bound makes none", "pbo 0",
+                Checks.states(bound) + " " + bound.cuts());
         bound.solve(1);
         IS.same("28: the next one has no point", "pbi 1", Checks.states(bound) + " " + bound.cuts());
     }

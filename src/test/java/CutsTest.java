@@ -407,7 +407,8 @@ public final class CutsTest {
         q.cutByRounding(0, 0, 2);
         IS.same("28: three", 3, q.cuts());
         IS.same("29: kinds", "y c r", q.kind(0) + " " + q.kind(1) + " " + q.kind(2));
-        IS.same("30: coefficients", "-1 1 0", q.coefficient(0, 0) + " " + q.coefficient(1, 1) + " " + q.coefficient(2, 2));
+        IS.same("30: coefficients", "-1 1 0",
+                q.coefficient(0, 0) + " " + q.coefficient(1, 1) + " " + q.coefficient(2, 2));
         IS.same("31: sides", "0 1 1", q.side(0) + " " + q.side(1) + " " + q.side(2));
         IS.same("32: ages", "0 0 0", q.age(0) + " " + q.age(1) + " " + q.age(2));
         for (int cut : new int[] {-1, 3, 16, Integer.MAX_VALUE, Integer.MIN_VALUE}) {

@@ -39,10 +39,13 @@ public final class FaceAndLanguageTest {
     };
     private static final Set<String> LIBRARY = Set.of("System.arraycopy", "Math.floorDiv", "Math.floorMod",
             "Math.min", "Math.max", "Math.abs", "Integer.bitCount", "Long.compare", "Integer.compare");
+    private static final Set<String> TYPES = Set.of("int", "long", "short", "byte", "char", "boolean", "double",
+            "float", "int[]", "long[]", "char[]", "boolean[]", "int[][]", "long[][]");
     private static final Set<String> THROWN = Set.of(S, A, I, U, N, "ArithmeticException");
 
     public static void main(String[] args) throws Exception {
         face();
+        room();
         Scan scan = new Scan();
         scan.scan(parse(), null);
         scan.endOfFile();
@@ -66,6 +69,54 @@ public final class FaceAndLanguageTest {
         for (Member f : BranchQuarry.class.getDeclaredFields()) {
             IS.same(f + " is private", true, Modifier.isPrivate(f.getModifiers()));
         }
+    }
+
+    /** Rule 12: what an object holds, arrays and all, and that its calls add nothing to it. */
+    private static void room() throws Exception {
+        BranchQuarry q = Programs.two();
+        long[] before = held(q);
+        IS.same("rule 12: objects and arrays, " + before[0], true, before[0] < 500);
+        IS.same("rule 12: fields and elements, " + before[1], true, before[1] < 3000);
+        for (int k = 0; k < 60; k++) {
+            q.begin(k % 2 == 0 ? 'b' : 'd', 'l');
+            q.cutByRounding(0, k % 2, 2);
+            q.solve(41);
+            q.bestByAll();
+            Checks.picture(q);
+        }
+        IS.same("rule 12: as much as before", before[0] + " " + before[1], held(q)[0] + " " + held(q)[1]);
+    }
+
+    /** How many objects and arrays can be reached, and how many fields and elements they have. */
+    private static long[] held(Object from) throws Exception {
+        Map<Object, Boolean> seen = new IdentityHashMap<>();
+        Deque<Object> open = new ArrayDeque<>(List.of(from));
+        seen.put(from, true);
+        long places = 0;
+        while (!open.isEmpty()) {
+            Object next = open.pop();
+            List<Object> inside = new ArrayList<>();
+            if (next.getClass().isArray()) {
+                for (int k = 0; k < java.lang.reflect.Array.getLength(next); k++) {
+                    inside.add(java.lang.reflect.Array.get(next, k));
+                }
+            } else {
+                for (java.lang.reflect.Field f : next.getClass().getDeclaredFields()) {
+                    if (!Modifier.isStatic(f.getModifiers())) {
+                        f.setAccessible(true);
+                        inside.add(f.get(next));
+                    }
+                }
+            }
+            places += inside.size();
+            for (Object o : inside) {
+                boolean isOwn = o != null && (o.getClass().isArray() || o.getClass().getName().startsWith("BranchQuarry"));
+                if (isOwn && seen.put(o, true) == null) {
+                    open.push(o);
+                }
+            }
+        }
+        return new long[] {seen.size(), places};
     }
 
     private static String told(Method m) {
@@ -92,6 +143,8 @@ public final class FaceAndLanguageTest {
         private final Map<String, Set<String>> calls = new TreeMap<>();
         private final Set<String> publicNames = new HashSet<>();
         private final Set<String> otherNames = new HashSet<>();
+        private final Set<String> types = new TreeSet<>();
+        private final Set<String> classNames = new HashSet<>();
         private String method = "";
         private int classCount;
 
@@ -113,6 +166,9 @@ public final class FaceAndLanguageTest {
         @Override
         public Void visitClass(ClassTree c, Void v) {
             classCount++;
+            classNames.add(c.getSimpleName().toString());
+            IS.same("rule 2: " + c.getSimpleName() + " stands in the class itself", true, classes.size() <= 1);
+            IS.same("rule 2: no class without a name", false, c.getSimpleName().isEmpty());
             var flags = c.getModifiers().getFlags();
             if (!classes.isEmpty()) {
                 IS.same("rule 1: " + c.getSimpleName() + " is static", true,
@@ -122,6 +178,7 @@ public final class FaceAndLanguageTest {
             }
             int fields = 0;
             for (Tree member : c.getMembers()) {
+                IS.same("rule 5: no initialiser block", false, member.getKind() == Tree.Kind.BLOCK);
                 if (member instanceof VariableTree f) {
                     boolean isStatic = f.getModifiers().getFlags().contains(javax.lang.model.element.Modifier.STATIC);
                     fields += isStatic ? 0 : 1;
@@ -169,10 +226,73 @@ public final class FaceAndLanguageTest {
         @Override
         public Void visitNewClass(NewClassTree made, Void v) {
             String name = made.getIdentifier().toString();
+            IS.same("rule 12: no call makes an object, " + made, true,
+                    name.endsWith("Exception") || method.startsWith("new "));
             if (!name.endsWith("Exception") && calls.containsKey(method)) {
                 calls.get(method).add("new " + name);
             }
             return super.visitNewClass(made, v);
+        }
+
+        @Override
+        public Void visitNewArray(NewArrayTree made, Void v) {
+            IS.same("rule 12: no call makes an array, " + made, true, method.startsWith("new "));
+            return super.visitNewArray(made, v);
+        }
+
+        @Override
+        public Void visitVariable(VariableTree f, Void v) {
+            types.add(f.getType().toString());
+            return super.visitVariable(f, v);
+        }
+
+        @Override
+        public Void visitBinary(BinaryTree b, Void v) {
+            boolean isText = b.getLeftOperand().getKind() == Tree.Kind.STRING_LITERAL
+                    || b.getRightOperand().getKind() == Tree.Kind.STRING_LITERAL;
+            IS.same("rules 6 and 10: no texts joined or compared by a sign, " + b, false, isText);
+            return super.visitBinary(b, v);
+        }
+
+        @Override
+        public Void visitLiteral(LiteralTree l, Void v) {
+            String text = String.valueOf(l.getValue());
+            IS.same("rule 4: signs from 1 to 127, " + l, true, text.chars().allMatch(c -> c >= 1 && c <= 127));
+            return super.visitLiteral(l, v);
+        }
+
+        @Override
+        public Void visitForLoop(ForLoopTree loop, Void v) {
+            IS.same("rule 9: a counter or a chain, " + loop.getInitializer(), "1 true 1", loop.getInitializer().size()
+                    + " " + (loop.getCondition() != null) + " " + loop.getUpdate().size());
+            return super.visitForLoop(loop, v);
+        }
+
+        @Override
+        public Void visitWhileLoop(WhileLoopTree loop, Void v) {
+            String condition = loop.getCondition().toString();
+            String counter = condition.replaceAll("^\\((\\w+) < .*$", "$1");
+            IS.same("rule 9: a counter against a bound, " + condition, true,
+                    loop.getStatement().toString().contains(counter + "++"));
+            return super.visitWhileLoop(loop, v);
+        }
+
+        @Override
+        public Void visitDoWhileLoop(DoWhileLoopTree loop, Void v) {
+            forbid("9, do: this class needs none", loop);
+            return null;
+        }
+
+        @Override
+        public Void visitEnhancedForLoop(EnhancedForLoopTree loop, Void v) {
+            forbid("9, for over: this class needs none", loop);
+            return null;
+        }
+
+        @Override
+        public Void visitInstanceOf(InstanceOfTree t, Void v) {
+            forbid("6, instanceof: this class needs none", t);
+            return null;
         }
 
         @Override
@@ -236,6 +356,14 @@ public final class FaceAndLanguageTest {
 
         private void endOfFile() {
             IS.same("rule 11: few classes", true, classCount <= 12);
+            for (String name : List.of("equals", "hashCode", "toString", "finalize", "clone")) {
+                IS.same("rule 6: no " + name, false, publicNames.contains(name) || otherNames.contains(name));
+            }
+            types.removeAll(TYPES);
+            for (String type : types) {
+                String own = type.replace("[]", "");
+                IS.same("rule 3: the type " + type, true, classNames.contains(own) && !type.contains("[][]"));
+            }
             otherNames.retainAll(publicNames);
             otherNames.remove("<init>");
             IS.same("rule 1: no other method bears a public name", Set.of(), otherNames);

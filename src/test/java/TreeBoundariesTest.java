@@ -188,7 +188,8 @@ public final class TreeBoundariesTest {
         IS.same("10: of two with the bound -14/3 the lowest number", "ppooo", Checks.states(q));
         q.solve(1);
         IS.same("10: -14/3 before -4", "pppoooo", Checks.states(q));
-        IS.same("17: -4 and -9/2", Checks.fraction(-4, 1) + " " + Checks.fraction(-9, 2), q.value(1) + " " + q.value(2));
+        IS.same("17: -4 and -9/2", Checks.fraction(-4, 1) + " " + Checks.fraction(-9, 2),
+                q.value(1) + " " + q.value(2));
         q.solve(1);
         IS.same("10: -9/2 before -4, and the lowest number of two", "pppooso", Checks.states(q));
 
@@ -214,7 +215,8 @@ public final class TreeBoundariesTest {
             IS.same("10: the greatest open number " + next, false, q.state(next) == 'o');
             for (int below = 0; below < next; below++) {
                 if (Checks.states(q).charAt(below) == 'o') {
-                    IS.same("10: no node below it has a point", true, Checks.answer(valueOf(q, below)).startsWith("No"));
+                    IS.same("10: the node " + below + " was not solved", "NoSuchElementException",
+                            Checks.answer(valueOf(q, below)));
                 }
             }
         }
@@ -243,7 +245,8 @@ public final class TreeBoundariesTest {
         BranchQuarry more = Programs.two('b', 'f');
         more.solve(41);
         IS.same("22: the best one", Checks.fraction(-12, 1), more.best());
-        IS.same("10: -11 is not less than -12, in the node 5", "b " + Checks.fraction(-11, 1), more.state(5) + " " + more.value(5));
+        IS.same("10: -11 is not less than -12, in the node 5", "b " + Checks.fraction(-11, 1),
+                more.state(5) + " " + more.value(5));
     }
 
     /** The same where values are fractions. */
@@ -283,8 +286,8 @@ public final class TreeBoundariesTest {
             q.solve(1);
             boolean isDue = (set & 3) == 0;
             IS.same("10: whole columns " + set, isDue ? "s" : "poo", Checks.states(q));
-            IS.same("22: the best solution, if it is one", isDue ? "" + Checks.fraction(-25, 6) : "NoSuchElementException",
-                    Checks.answer(q::best));
+            IS.same("22: the best solution, if it is one",
+                    isDue ? "" + Checks.fraction(-25, 6) : "NoSuchElementException", Checks.answer(q::best));
             IS.same("12: open nodes", isDue ? 0 : 2, q.open());
         }
     }
@@ -655,10 +658,9 @@ public final class TreeBoundariesTest {
         for (int step = 0; step < 12; step++) {
             for (int k = 0; k < q.nodes(); k++) {
                 int node = k;
-                boolean isDue = "bsp".indexOf(q.state(node)) >= 0;
-                IS.same("17: of the state " + q.state(node), isDue, !Checks.answer(() -> q.value(node)).startsWith("No"));
-                IS.same("18: of the state " + q.state(node), isDue,
-                        !Checks.answer(() -> q.point(node, 1)).startsWith("No"));
+                String due = "bsp".indexOf(q.state(node)) >= 0 ? "a number" : "NoSuchElementException";
+                IS.same("17: of the state " + q.state(node), due, numberOr(Checks.answer(() -> q.value(node))));
+                IS.same("18: of the state " + q.state(node), due, numberOr(Checks.answer(() -> q.point(node, 1))));
             }
             q.solve(1);
         }
@@ -670,6 +672,10 @@ public final class TreeBoundariesTest {
         IS.fails("17: though it would have a value", full, NOTHING, () -> full.value(39));
         IS.fails("18: and a point", full, NOTHING, () -> full.point(39, 0));
         IS.fails("21: to be rounded", full, NOTHING, () -> full.round(39));
+    }
+
+    private static String numberOr(String answer) {
+        return answer.matches("-?\\d+") ? "a number" : answer;
     }
 
     private static String leastPoint(int[] costs, int[]... rows) {
@@ -703,9 +709,11 @@ public final class TreeBoundariesTest {
         IS.same("18: at least 28", "1 9 9 9", leastPoint(free, new int[] {'g', 28, 1, 1, 1, 1}));
         IS.same("18: at least 36", "9 9 9 9", leastPoint(free, new int[] {'g', 36, 1, 1, 1, 1}));
         IS.same("18: costs that are alike", "0 2 9 9", leastPoint(ones, new int[] {'g', 20, 1, 1, 1, 1}));
-        IS.same("18: the cost comes first", "9 9 0 2", leastPoint(new int[] {1, 1, 2, 2}, new int[] {'g', 20, 1, 1, 1, 1}));
+        IS.same("18: the cost comes first", "9 9 0 2",
+                leastPoint(new int[] {1, 1, 2, 2}, new int[] {'g', 20, 1, 1, 1, 1}));
         IS.same("18: then column 0", "0 9 2 9", leastPoint(new int[] {2, 1, 2, 1}, new int[] {'g', 20, 1, 1, 1, 1}));
-        IS.same("18: costs under 0", "0 2 9 9", leastPoint(new int[] {-1, -1, -1, -1}, new int[] {'l', 20, 1, 1, 1, 1}));
+        IS.same("18: costs under 0", "0 2 9 9",
+                leastPoint(new int[] {-1, -1, -1, -1}, new int[] {'l', 20, 1, 1, 1, 1}));
         IS.same("18: column 0 before column 1", "0 7/2 0 0", leastPoint(free, new int[] {'e', 7, 2, 2, 0, 0}));
         IS.same("18: column 1 before column 2", "0 0 7/2 0", leastPoint(free, new int[] {'e', 7, 0, 2, 2, 0}));
         IS.same("18: column 2 before column 3", "0 0 0 7/2", leastPoint(free, new int[] {'e', 7, 0, 0, 2, 2}));
@@ -731,7 +739,8 @@ public final class TreeBoundariesTest {
             long told = 100000L * (3 * of[0] / thrice) + of[1] / thrice;
             IS.same("17: three times " + of[0] + "/" + of[1], told, q.value(0));
             q.solve(41);
-            IS.same("19: its bound", of[0] % of[1] == 0 ? "" + told : "NoSuchElementException", Checks.answer(q::bound));
+            IS.same("19: its bound", of[0] % of[1] == 0 ? "" + told : "NoSuchElementException",
+                    Checks.answer(q::bound));
         }
         BranchQuarry least = Programs.columns(-9, 9, 9, 9, 9, 9);
         least.begin('b', 'f');
